@@ -1,0 +1,104 @@
+/** What the tests share: checks that count themselves, and ways to bring an object where a test wants it. */
+final class Check {
+    static final Class<? extends RuntimeException> PLACE = IndexOutOfBoundsException.class;
+    static final Class<? extends RuntimeException> ARGUMENT = IllegalArgumentException.class;
+    static final Class<? extends RuntimeException> STATE = IllegalStateException.class;
+
+    private static int done = 0;
+    private static int wrong = 0;
+
+    interface Call {
+        long answer();
+    }
+
+    private Check() {
+    }
+
+    static void same(String what, long got, long want) {
+        done++;
+        if (got != want) {
+            wrong++;
+            System.out.println(what + " answered " + got + ", due is " + want);
+        }
+    }
+
+    static void same(String what, double got, double want) {
+        same(what + " (as bits)", Double.doubleToLongBits(got), Double.doubleToLongBits(want));
+    }
+
+    /** The call throws just this exception, and leaves the whole state as it was. */
+    static void refuses(CutStore x, String what, Class<? extends RuntimeException> kind, Call call) {
+        long before = x.digest();
+        Class<?> got = null;
+        try {
+            call.answer();
+        } catch (RuntimeException e) {
+            got = e.getClass();
+        }
+        done++;
+        if (got != kind) {
+            wrong++;
+            System.out.println(what + " threw " + got + ", due is " + kind);
+        }
+        same(what + ": the state behind the exception", x.digest(), before);
+    }
+
+    static void type(CutStore x, String characters) {
+        for (int i = 0; i < characters.length(); i++) {
+            x.append(characters.charAt(i));
+        }
+    }
+
+    static int put(CutStore x, int text, String characters) {
+        type(x, characters);
+        return x.put(text);
+    }
+
+    /** From now on a piece ends as soon as it has so many signs (by its sum, so that it is not forced). */
+    static void cutEvenly(CutStore x, int many) {
+        x.set(1, 1);
+        x.set(2, 0);
+        x.set(3, many);
+    }
+
+    /** From now on no sum ends a piece, so that all pieces get so many signs. */
+    static void cutByForce(CutStore x, int many) {
+        x.set(1, 1);
+        x.set(2, 8);
+        x.set(4, many);
+    }
+
+    static String signs(CutStore x, int text) {
+        StringBuilder signs = new StringBuilder();
+        for (int place = 0; place < x.text(text, 0); place++) {
+            signs.append((char) ('a' - 1 + x.sign(text, place, 0)));
+        }
+        return signs.toString();
+    }
+
+    static String pieces(CutStore x, int text) {
+        StringBuilder pieces = new StringBuilder();
+        String signs = signs(x, text);
+        for (int piece = 0; piece < x.text(text, 1); piece++) {
+            int first = x.piece(text, piece, 1);
+            pieces.append(piece == 0 ? "" : " ").append(signs, first, first + x.piece(text, piece, 2));
+        }
+        return pieces.toString();
+    }
+
+    static void hasPieces(String what, CutStore x, int text, String want) {
+        done++;
+        String got = pieces(x, text);
+        if (!got.equals(want)) {
+            wrong++;
+            System.out.println(what + ": the pieces are '" + got + "', due are '" + want + "'");
+        }
+    }
+
+    static void finish(String name) {
+        System.out.println(name + ": " + done + " checks, " + wrong + " wrong");
+        if (wrong != 0 || done == 0) {
+            System.exit(1);
+        }
+    }
+}
