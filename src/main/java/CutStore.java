@@ -780,7 +780,6 @@ public final class CutStore {
             for (int slot = 0; slot < SLOTS; slot++) {
                 if (isUnowned(slot) && !kept.has(rows[slot])) {
                     rows[slot] = 0L;
-                    lengths[slot] = 0;
                     removed++;
                 }
             }

@@ -53,12 +53,12 @@ public final class ModelTests {
 
     /** Words come back, with small changes, so that texts share pieces; some are too long or wrong. */
     private static void chooseWord(int alphabet) {
-        int kind = next(10);
+        int kind = next(11);
         StringBuilder chosen = new StringBuilder(kind < 4 ? word : "");
-        int many = 1 + next(kind < 7 ? 12 : 34);
+        int many = kind == 10 ? 40 : 1 + next(kind < 7 ? 12 : 34);
         for (int i = 0; i < many && chosen.length() < 58; i++) {
             chosen.append((char) ('a' + next(alphabet)));
-            if (next(8) == 0) {
+            if (kind < 10 && next(8) == 0) {
                 chosen.append((char) ('2' + next(8)));
             }
         }

@@ -304,6 +304,12 @@ public final class PromiseTests {
         x.undo();
         x.undo();
         Check.same("8: undone", x.count(4), 2);
+        Check.put(x, 3, "gh");
+        x.drop(3);
+        Check.same("8: the latest piece too", x.sweep(), 3);
+        x.undo();
+        x.undo();
+        x.undo();
         Check.same("8: what was counted too", x.count(8), 0);
     }
 
@@ -608,6 +614,13 @@ public final class PromiseTests {
         Check.same("23: the divisor as it is does not matter", x.bestDivisor(), 4);
         x.set(2, 4);
         Check.same("23: with the rest as it is", x.bestDivisor(), 9);
+        // Divisor 1: "ba" four times; 2: "bab", "ab" twice, "a"; 3 to 9: all eight signs together.
+        CutStore y = new CutStore();
+        y.set(0, 1);
+        Check.put(y, 0, "babababa");
+        Check.same("23: the least divisor", y.bestDivisor(), 1);
+        Check.put(y, 0, "abababab");
+        Check.same("23: the next one, as good", y.bestDivisor(), 2);
     }
 
     private static void savedShare() {
@@ -637,6 +650,66 @@ public final class PromiseTests {
             result = 31 * result + value;
         }
         return result;
+    }
+
+    private static long textByFace(CutStore x, int text, long before) {
+        long hash = before;
+        for (int what = 0; what <= 5; what++) {
+            hash = hashOf(hash, x.text(text, what));
+        }
+        for (int place = 0; place < x.text(text, 0); place++) {
+            hash = hashOf(hash, x.sign(text, place, 0), x.sign(text, place, 1), x.sign(text, place, 2),
+                    x.sign(text, place, 3));
+        }
+        for (int piece = 0; piece < x.text(text, 1); piece++) {
+            hash = hashOf(hash, x.piece(text, piece, 0), x.piece(text, piece, 1), x.piece(text, piece, 2),
+                    x.piece(text, piece, 3), x.piece(text, piece, 4));
+        }
+        hash = hashOf(hash, x.common(text, 0, 0), x.common(text, 0, 1), x.common(text, 0, 2));
+        hash = hashOf(hash, x.ifPut(text, 0), x.ifPut(text, 1), x.ifPut(text, 2), x.ifPut(text, 3));
+        return hashOf(hash, x.ifSet(text, 1, 2));
+    }
+
+    /** What the digest is to be, by the answers of the other calls; the buffer is told, since no call shows it. */
+    private static void digestIsOf(CutStore x, String characters) {
+        Check.type(x, characters);
+        long hash = 2663;
+        for (int what = 0; what <= 9; what++) {
+            hash = hashOf(hash, x.count(what));
+        }
+        for (int setting = 0; setting <= 4; setting++) {
+            hash = hashOf(hash, x.setting(setting));
+        }
+        for (int text = 0; text <= 3; text++) {
+            hash = textByFace(x, text, hash);
+        }
+        for (int slot = 0; slot <= 59; slot++) {
+            if (x.slot(slot, 0) != CutStore.NONE) {
+                hash = hashOf(hash, slot, x.slot(slot, 0), x.slot(slot, 1), x.slot(slot, 2), x.slot(slot, 3),
+                        x.slot(slot, 4));
+            }
+        }
+        hash = hashOf(hash, x.bestDivisor(), Double.doubleToLongBits(x.savedShare()), characters.length());
+        for (int index = 0; index < characters.length(); index++) {
+            hash = hashOf(hash, characters.charAt(index));
+        }
+        Check.same("25: digest with '" + characters + "' in the buffer", x.digest(), hash);
+    }
+
+    private static CutStore withSmallShare() {
+        CutStore x = withoutSlots();
+        Check.put(x, 3, "aa");
+        return x;
+    }
+
+    private static void digestOfMany() {
+        digestIsOf(new CutStore(), "");
+        digestIsOf(new CutStore(), "a9~");
+        digestIsOf(sharing(), "abcdab");
+        digestIsOf(withoutSlots(), PAIRS_1 + PAIRS_2.substring(0, 20));
+        digestIsOf(withoutSlots(), "hehh");
+        digestIsOf(withoutRoom(), "h9h9h2g9g9g2");
+        digestIsOf(withSmallShare(), "!");
     }
 
     private static void digest() {
@@ -700,6 +773,7 @@ public final class PromiseTests {
         bestDivisor();
         savedShare();
         digest();
+        digestOfMany();
         Check.finish("PromiseTests");
     }
 }
