@@ -52,8 +52,7 @@ public final class ModelTests {
     private static String word = "";
 
     /** Words come back, with small changes, so that texts share pieces; some are too long or wrong. */
-    private static void chooseWord(int alphabet) {
-        int kind = next(11);
+    private static void chooseWord(int alphabet, int kind) {
         StringBuilder chosen = new StringBuilder(kind < 4 ? word : "");
         int many = kind == 10 ? 40 : 1 + next(kind < 7 ? 12 : 34);
         for (int i = 0; i < many && chosen.length() < 58; i++) {
@@ -166,12 +165,27 @@ public final class ModelTests {
         return 5;
     }
 
+    /** Texts as long as can be, so that the store is nearly full, and pieces are many. */
+    private static int fill(int run) {
+        for (int i = 0; i < 4; i++) {
+            int text = i;
+            chooseWord(8, 10);
+            typeWord(run);
+            number("run " + run + ": put(" + text + ")", () -> x.put(text), () -> model.put(text));
+            alike("run " + run + ": bestDivisor", () -> x.bestDivisor(), () -> model.bestDivisor());
+            x.clearBuffer();
+            model.clearBuffer();
+        }
+        return 4 * 44;
+    }
+
     private static void run(int run) {
         x = new CutStore();
         model = new Model();
         word = "";
         int alphabet = 1 + next(8);
         int calls = next(4) == 0 ? 0 : applyStyle();
+        calls += run % 5 == 0 ? fill(run) : 0;
         boolean fine = true;
         while (fine && calls < CALLS - 70) {
             int text = next(20) == 0 ? near(0, 3) : next(4);
@@ -179,7 +193,7 @@ public final class ModelTests {
             if (kind < 4) {
                 x.clearBuffer();
                 model.clearBuffer();
-                chooseWord(alphabet);
+                chooseWord(alphabet, next(11));
                 fine = typeWord(run);
                 calls += 1 + word.length();
             }
