@@ -6,20 +6,38 @@ final class Check {
 
     private static int done = 0;
     private static int wrong = 0;
+    private static String about = "";
 
     interface Call {
         long answer();
     }
 
+    interface CallOf {
+        long answer(int argument);
+    }
+
     private Check() {
     }
 
-    static void same(String what, long got, long want) {
+    /** What the next checks are about; it stands ahead of each message. */
+    static void about(String what) {
+        about = what;
+    }
+
+    static int done() {
+        return done;
+    }
+
+    private static void count(boolean right, String message) {
         done++;
-        if (got != want) {
+        if (!right) {
             wrong++;
-            System.out.println(what + " answered " + got + ", due is " + want);
+            System.out.println(about + message);
         }
+    }
+
+    static void same(String what, long got, long want) {
+        count(got == want, what + " answered " + got + ", due is " + want);
     }
 
     static void same(String what, double got, double want) {
@@ -35,12 +53,16 @@ final class Check {
         } catch (RuntimeException e) {
             got = e.getClass();
         }
-        done++;
-        if (got != kind) {
-            wrong++;
-            System.out.println(what + " threw " + got + ", due is " + kind);
-        }
+        count(got == kind, what + " threw " + got + ", due is " + kind);
         same(what + ": the state behind the exception", x.digest(), before);
+    }
+
+    /** The call throws this exception for each of the arguments. */
+    static void refusesEach(CutStore x, String what, Class<? extends RuntimeException> kind, CallOf call,
+            int... arguments) {
+        for (int argument : arguments) {
+            refuses(x, what + " " + argument, kind, () -> call.answer(argument));
+        }
     }
 
     static void type(CutStore x, String characters) {
@@ -87,12 +109,8 @@ final class Check {
     }
 
     static void hasPieces(String what, CutStore x, int text, String want) {
-        done++;
         String got = pieces(x, text);
-        if (!got.equals(want)) {
-            wrong++;
-            System.out.println(what + ": the pieces are '" + got + "', due are '" + want + "'");
-        }
+        count(got.equals(want), what + ": the pieces are '" + got + "', due are '" + want + "'");
     }
 
     static void finish(String name) {

@@ -1,10 +1,7 @@
+import java.util.function.Supplier;
+
 /** Each promise of the document by itself, with numbers worked out by hand from its words. */
 public final class PromiseTests {
-    /** 20 pairs of signs each, all 60 of them unlike. */
-    private static final String PAIRS_0 = "aaabacadaeafagahbabbbcbdbebfbgbhcacbcccd";
-    private static final String PAIRS_1 = "cecfcgchdadbdcdddedfdgdheaebecedeeefegeh";
-    private static final String PAIRS_2 = "fafbfcfdfefffgfhgagbgcgdgegfggghhahbhchd";
-
     private PromiseTests() {
     }
 
@@ -30,13 +27,13 @@ public final class PromiseTests {
 
     private static void cutting() {
         CutStore x = new CutStore();
-        // The sums are 1 4 10 16 20 24: "ab" and "cd" end by theirs, "ef" at 24.
+        // The sums are 1 4 10 16 22 28: "ab", "cd" and "ef" end by theirs.
         Check.same("2: put", Check.put(x, 0, "abcdef"), 3);
         Check.hasPieces("2: cut by sums", x, 0, "ab cd ef");
-        // The sum at the fourth sign holds the "b" of the piece ahead of it: 2, 6, 11, 12.
-        Check.put(x, 1, "bbca");
-        Check.hasPieces("2: sums do not begin anew", x, 1, "bbca");
-        Check.same("2: the sum that ends it", x.sign(1, 3, 1), 1 + 2 * 3 + 3 * 2);
+        // 4 and 16 end "ab" and "cd"; the sum at "d" holds the "b" of the piece ahead of it, and is 10 without it.
+        Check.put(x, 1, "abcde");
+        Check.hasPieces("2: sums do not begin anew", x, 1, "ab cd e");
+        Check.same("2: the sum that ends it", x.sign(1, 3, 1), 4 + 2 * 3 + 3 * 2);
         Check.cutByForce(x, 6);
         Check.put(x, 2, "a9a4");
         Check.hasPieces("2: the greatest length", x, 2, "aaaaaa aaaaaa a");
@@ -68,28 +65,8 @@ public final class PromiseTests {
         Check.same("2: the buffer stays", x.clearBuffer(), 3);
     }
 
-    /** Text 3 gets what no slot or no room is left for. */
-    private static CutStore withoutSlots() {
-        CutStore x = new CutStore();
-        Check.cutEvenly(x, 2);
-        Check.put(x, 0, PAIRS_0);
-        Check.put(x, 1, PAIRS_1);
-        Check.put(x, 2, PAIRS_2);
-        return x;
-    }
-
-    private static CutStore withoutRoom() {
-        CutStore x = new CutStore();
-        Check.cutByForce(x, 20);
-        Check.put(x, 0, "a9a9a2b9b9b2");
-        Check.put(x, 1, "c9c9c2d9d9d2");
-        Check.put(x, 2, "e9e9e2f9f9f2");
-        Check.put(x, 3, "g9g9g2h9h");
-        return x;
-    }
-
     private static void storeIsFull() {
-        CutStore x = withoutSlots();
+        CutStore x = Examples.withoutSlots();
         Check.same("2: all slots", x.count(2), 60);
         Check.same("2: their size", x.count(3), 120);
         Check.same("2: kept rows need no slot", Check.put(x, 3, "aahd"), 2);
@@ -102,7 +79,7 @@ public final class PromiseTests {
         Check.same("2: swept for slots", x.count(8), 20);
         Check.same("2: the lowest free slot", x.piece(3, 0, 0), 0);
 
-        CutStore y = withoutRoom();
+        CutStore y = Examples.withoutRoom();
         Check.same("2: all the room", y.count(3), 150);
         Check.type(y, "g9g9g2a9a");
         Check.same("2: its own old pieces make room", y.put(3), 2);
@@ -119,7 +96,7 @@ public final class PromiseTests {
     }
 
     private static void sweepWhenNeeded() {
-        CutStore x = withoutRoom();
+        CutStore x = Examples.withoutRoom();
         x.drop(3);
         Check.same("2: unowned pieces stay", x.count(4), 2);
         Check.same("2: their lengths", x.count(5), 30);
@@ -180,10 +157,10 @@ public final class PromiseTests {
         Check.type(x, "z");
         Check.refuses(x, "3: the buffer before the length", Check.ARGUMENT, () -> x.insert(0, 40));
         Check.refuses(x, "3: the place before the buffer", Check.PLACE, () -> x.insert(0, 41));
-        CutStore full = withoutRoom();
+        CutStore full = Examples.withoutRoom();
         Check.type(full, "h");
         Check.refuses(full, "3: refused for room", Check.STATE, () -> full.insert(3, 30));
-        CutStore slots = withoutSlots();
+        CutStore slots = Examples.withoutSlots();
         Check.type(slots, "he");
         Check.refuses(slots, "3: refused for slots", Check.STATE, () -> slots.insert(3, 0));
     }
@@ -210,7 +187,7 @@ public final class PromiseTests {
         Check.same("4: saved", x.count(9), Math.min(saved + 1, 6));
         Check.same("4: empty now", x.text(0, 0), 0);
         Check.refuses(x, "4: an empty text has no place", Check.PLACE, () -> x.takeOut(0, 0, 1));
-        CutStore full = withoutSlots();
+        CutStore full = Examples.withoutSlots();
         Check.put(full, 3, "aaaa");
         full.set(3, 3);
         Check.refuses(full, "4: refused by the store", Check.STATE, () -> full.takeOut(3, 0, 1));
@@ -236,7 +213,7 @@ public final class PromiseTests {
         Check.refuses(x, "5: text -1", Check.PLACE, () -> x.copy(-1, 0));
         Check.refuses(x, "5: other 4", Check.PLACE, () -> x.copy(0, 4));
         Check.refuses(x, "5: other -1", Check.PLACE, () -> x.copy(0, -1));
-        CutStore full = withoutSlots();
+        CutStore full = Examples.withoutSlots();
         full.set(3, 3);
         Check.refuses(full, "5: refused by the store", Check.STATE, () -> full.copy(3, 0));
     }
@@ -261,7 +238,7 @@ public final class PromiseTests {
         int saved = x.count(9);
         x.undo();
         Check.same("6: saved", x.count(9), saved - 1);
-        CutStore full = withoutSlots();
+        CutStore full = Examples.withoutSlots();
         Check.put(full, 3, "abaaba");
         full.set(3, 3);
         Check.refuses(full, "6: refused by the store", Check.STATE, () -> full.rotate(3, 1));
@@ -436,20 +413,8 @@ public final class PromiseTests {
         Check.refuses(x, "14: what -1", Check.ARGUMENT, () -> x.sign(1, 0, -1));
     }
 
-    /** Text 0 is "ab cd ab e", text 1 "ab cd ef", text 2 "ab", text 3 "ghghgh gh" by force. */
-    private static CutStore sharing() {
-        CutStore x = new CutStore();
-        Check.cutEvenly(x, 2);
-        Check.put(x, 0, "abcdabe");
-        Check.put(x, 1, "abcdef");
-        Check.put(x, 2, "ab");
-        Check.cutByForce(x, 6);
-        Check.put(x, 3, "ghghghgh");
-        return x;
-    }
-
     private static void piece() {
-        CutStore x = sharing();
+        CutStore x = Examples.sharing();
         int[][] due = {{0, 0, 2, 0, 2}, {1, 2, 2, 0, 1}, {0, 4, 2, 0, 2}, {2, 6, 1, 0, 0}};
         for (int piece = 0; piece < 4; piece++) {
             for (int what = 0; what <= 4; what++) {
@@ -471,7 +436,7 @@ public final class PromiseTests {
     }
 
     private static void slot() {
-        CutStore x = sharing();
+        CutStore x = Examples.sharing();
         int[][] due = {{2, 4, 1, 2, 7}, {2, 2, 3, 4, 3}, {1, 1, 5, 5, 1}, {2, 1, 5, 6, 2}, {6, 1, 7, 8, 8},
             {2, 1, 7, 8, 8}, {-1, -1, -1, -1, -1}};
         for (int slot = 0; slot < due.length; slot++) {
@@ -494,7 +459,7 @@ public final class PromiseTests {
     }
 
     private static void text() {
-        CutStore x = sharing();
+        CutStore x = Examples.sharing();
         int[][] due = {{7, 4, 3, 0, 2, 1}, {6, 3, 3, 0, 2, 2}, {2, 1, 1, 0, 2, 0}, {8, 2, 2, 1, 6, 8}};
         for (int text = 0; text < 4; text++) {
             for (int what = 0; what <= 5; what++) {
@@ -514,7 +479,7 @@ public final class PromiseTests {
     }
 
     private static void common() {
-        CutStore x = sharing();
+        CutStore x = Examples.sharing();
         int[][] due = {{0, 1, 2, 6, 2}, {1, 0, 2, 4, 2}, {0, 2, 1, 4, 1}, {2, 0, 1, 2, 1}, {0, 3, 0, 0, 0},
             {0, 0, 3, 7, 4}, {3, 3, 2, 8, 2}};
         for (int[] row : due) {
@@ -534,7 +499,7 @@ public final class PromiseTests {
     }
 
     private static void count() {
-        CutStore x = sharing();
+        CutStore x = Examples.sharing();
         x.drop(1);
         int[] due = {17, 7, 6, 15, 1, 2, 3, 6, 0, 6};
         for (int what = 0; what <= 9; what++) {
@@ -549,7 +514,7 @@ public final class PromiseTests {
     }
 
     private static void ifPut() {
-        CutStore x = sharing();
+        CutStore x = Examples.sharing();
         Check.same("21: empty buffer", x.ifPut(0, 0), CutStore.NONE);
         x.set(2, 0);
         Check.type(x, "abghghabhh");
@@ -569,7 +534,7 @@ public final class PromiseTests {
         x.append('!');
         Check.same("21: not complete", x.ifPut(0, 3), CutStore.NONE);
         Check.refuses(x, "21: what ahead of NONE", Check.ARGUMENT, () -> x.ifPut(0, 4));
-        CutStore full = withoutRoom();
+        CutStore full = Examples.withoutRoom();
         Check.type(full, "h9h9");
         Check.same("21: the text's own pieces make room", full.ifPut(0, 3), 0);
         Check.same("21: another's do too", full.ifPut(3, 3), 0);
@@ -624,7 +589,7 @@ public final class PromiseTests {
     }
 
     private static void savedShare() {
-        CutStore x = sharing();
+        CutStore x = Examples.sharing();
         Check.same("24: shared", x.savedShare(), 1.0 - 15.0 / 23.0);
         x.drop(1);
         Check.same("24: without owners don't count", x.savedShare(), 1.0 - 13.0 / 17.0);
@@ -644,72 +609,26 @@ public final class PromiseTests {
         Check.same("24: all alike", ones.savedShare(), 1.0 - 1.0 / 160.0);
     }
 
-    private static long hashOf(long hash, long... values) {
-        long result = hash;
-        for (long value : values) {
-            result = 31 * result + value;
-        }
-        return result;
-    }
-
-    private static long textByFace(CutStore x, int text, long before) {
-        long hash = before;
-        for (int what = 0; what <= 5; what++) {
-            hash = hashOf(hash, x.text(text, what));
-        }
-        for (int place = 0; place < x.text(text, 0); place++) {
-            hash = hashOf(hash, x.sign(text, place, 0), x.sign(text, place, 1), x.sign(text, place, 2),
-                    x.sign(text, place, 3));
-        }
-        for (int piece = 0; piece < x.text(text, 1); piece++) {
-            hash = hashOf(hash, x.piece(text, piece, 0), x.piece(text, piece, 1), x.piece(text, piece, 2),
-                    x.piece(text, piece, 3), x.piece(text, piece, 4));
-        }
-        hash = hashOf(hash, x.common(text, 0, 0), x.common(text, 0, 1), x.common(text, 0, 2));
-        hash = hashOf(hash, x.ifPut(text, 0), x.ifPut(text, 1), x.ifPut(text, 2), x.ifPut(text, 3));
-        return hashOf(hash, x.ifSet(text, 1, 2));
-    }
-
-    /** What the digest is to be, by the answers of the other calls; the buffer is told, since no call shows it. */
-    private static void digestIsOf(CutStore x, String characters) {
+    private static void digestIsOf(Supplier<CutStore> maker, String characters) {
+        CutStore x = maker.get();
         Check.type(x, characters);
-        long hash = 2663;
-        for (int what = 0; what <= 9; what++) {
-            hash = hashOf(hash, x.count(what));
-        }
-        for (int setting = 0; setting <= 4; setting++) {
-            hash = hashOf(hash, x.setting(setting));
-        }
-        for (int text = 0; text <= 3; text++) {
-            hash = textByFace(x, text, hash);
-        }
-        for (int slot = 0; slot <= 59; slot++) {
-            if (x.slot(slot, 0) != CutStore.NONE) {
-                hash = hashOf(hash, slot, x.slot(slot, 0), x.slot(slot, 1), x.slot(slot, 2), x.slot(slot, 3),
-                        x.slot(slot, 4));
-            }
-        }
-        hash = hashOf(hash, x.bestDivisor(), Double.doubleToLongBits(x.savedShare()), characters.length());
-        for (int index = 0; index < characters.length(); index++) {
-            hash = hashOf(hash, characters.charAt(index));
-        }
-        Check.same("25: digest with '" + characters + "' in the buffer", x.digest(), hash);
+        Check.same("25: digest with '" + characters + "' in the buffer", x.digest(), Digests.byFace(maker, characters));
     }
 
     private static CutStore withSmallShare() {
-        CutStore x = withoutSlots();
+        CutStore x = Examples.withoutSlots();
         Check.put(x, 3, "aa");
         return x;
     }
 
     private static void digestOfMany() {
-        digestIsOf(new CutStore(), "");
-        digestIsOf(new CutStore(), "a9~");
-        digestIsOf(sharing(), "abcdab");
-        digestIsOf(withoutSlots(), PAIRS_1 + PAIRS_2.substring(0, 20));
-        digestIsOf(withoutSlots(), "hehh");
-        digestIsOf(withoutRoom(), "h9h9h2g9g9g2");
-        digestIsOf(withSmallShare(), "!");
+        digestIsOf(CutStore::new, "");
+        digestIsOf(CutStore::new, "a9~");
+        digestIsOf(Examples::sharing, "abcdab");
+        digestIsOf(Examples::withoutSlots, Examples.PAIRS_1 + Examples.PAIRS_2.substring(0, 20));
+        digestIsOf(Examples::withoutSlots, "hehh");
+        digestIsOf(Examples::withoutRoom, "h9h9h2g9g9g2");
+        digestIsOf(PromiseTests::withSmallShare, "!");
     }
 
     private static void digest() {
@@ -718,15 +637,15 @@ public final class PromiseTests {
         Check.put(x, 1, "aba");
         Check.put(x, 0, "ab");
         Check.type(x, "c!");
-        long due = hashOf(2663, 5, 3, 2, 3, 0, 0, 2, 2, 0, 5);
-        due = hashOf(due, 3, 1, 0, 2, 10);
-        due = hashOf(due, 2, 1, 1, 0, 2, 0, 1, 1, 0, 0, 2, 4, 0, 1, 0, 0, 2, 0, 1, 1, 2, 1, -1, -1, -1, -1, 1);
-        due = hashOf(due, 3, 2, 2, 0, 2, 1, 1, 1, 0, 0, 2, 4, 0, 1, 1, 8, 1, 1, 0, 0, 2, 0, 1, 1, 2, 1, 0, 0);
-        due = hashOf(due, 1, 2, 1, -1, -1, -1, -1, 2);
-        due = hashOf(due, 0, 0, 0, 0, 0, 0, 0, 0, 0, -1, -1, -1, -1, 0);
-        due = hashOf(due, 0, 0, 0, 0, 0, 0, 0, 0, 0, -1, -1, -1, -1, 0);
-        due = hashOf(due, 0, 2, 2, 1, 2, 3, 1, 1, 1, 1, 1, 2);
-        due = hashOf(due, 4, Double.doubleToLongBits(1.0 - 3.0 / 5.0), 2, 'c', '!');
+        long due = Digests.of(2663, 5, 3, 2, 3, 0, 0, 2, 2, 0, 5);
+        due = Digests.of(due, 3, 1, 0, 2, 10);
+        due = Digests.of(due, 2, 1, 1, 0, 2, 0, 1, 1, 0, 0, 2, 4, 0, 1, 0, 0, 2, 0, 1, 1, 2, 1, -1, -1, -1, -1, 1);
+        due = Digests.of(due, 3, 2, 2, 0, 2, 1, 1, 1, 0, 0, 2, 4, 0, 1, 1, 8, 1, 1, 0, 0, 2, 0, 1, 1, 2, 1, 0, 0);
+        due = Digests.of(due, 1, 2, 1, -1, -1, -1, -1, 2);
+        due = Digests.of(due, 0, 0, 0, 0, 0, 0, 0, 0, 0, -1, -1, -1, -1, 0);
+        due = Digests.of(due, 0, 0, 0, 0, 0, 0, 0, 0, 0, -1, -1, -1, -1, 0);
+        due = Digests.of(due, 0, 2, 2, 1, 2, 3, 1, 1, 1, 1, 1, 2);
+        due = Digests.of(due, 4, Double.doubleToLongBits(1.0 - 3.0 / 5.0), 2, 'c', '!');
         Check.same("25: digest", x.digest(), due);
         Check.same("25: nothing is changed", x.digest(), due);
         x.clearBuffer();
