@@ -16,6 +16,10 @@ final class Check {
         long answer(int argument);
     }
 
+    interface CallOn {
+        long answer(CutStore x);
+    }
+
     private Check() {
     }
 
@@ -63,6 +67,24 @@ final class Check {
         for (int argument : arguments) {
             refuses(x, what + " " + argument, kind, () -> call.answer(argument));
         }
+    }
+
+    /** The call throws this exception for each of the arguments, and for the least and the greatest int. */
+    static void refusesBeyond(CutStore x, String what, Class<? extends RuntimeException> kind, CallOf call,
+            int... arguments) {
+        refusesEach(x, what, kind, call, arguments);
+        refusesEach(x, what, kind, call, Integer.MIN_VALUE, Integer.MAX_VALUE);
+    }
+
+    /** The call saves one of less than six states, and undo brings back what was before the characters were typed. */
+    static void undoes(CutStore x, String what, String characters, CallOn call) {
+        long before = x.digest();
+        int saved = x.count(9);
+        type(x, characters);
+        call.answer(x);
+        same(what + " saves, which makes", x.count(9), saved + 1);
+        same(what + ", undone, leaves", x.undo(), saved);
+        same(what + ", undone: the state", x.digest(), before);
     }
 
     static void type(CutStore x, String characters) {

@@ -5,6 +5,14 @@ final class Examples {
     static final String PAIRS_1 = "cecfcgchdadbdcdddedfdgdheaebecedeeefegeh";
     static final String PAIRS_2 = "fafbfcfdfefffgfhgagbgcgdgegfggghhahbhchd";
 
+    /** As many signs as a text can have, all "a". */
+    static final String FORTY = "a9a9a9a9a4";
+
+    /** The values that the settings can have, and those of a new object. */
+    static final int[] LOWEST = {1, 1, 0, 1, 6};
+    static final int[] HIGHEST = {6, 9, 8, 6, 20};
+    static final int[] FIRST = {3, 4, 0, 2, 10};
+
     private Examples() {
     }
 

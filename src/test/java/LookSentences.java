@@ -1,9 +1,5 @@
 /** The sentences of promises 14 to 20: looks. */
 final class LookSentences {
-    private static final int LEAST_INT = Integer.MIN_VALUE;
-    private static final int GREATEST_INT = Integer.MAX_VALUE;
-    private static final int[] NO_TEXTS = {-1, 4, LEAST_INT, GREATEST_INT};
-    private static final String FORTY = "a9a9a9a9a4";
     private static final String TEXTS = "`text`: 0 to 3";
     private static final String NUMBER = "Returns the number.";
     private static final String NO_TEXT = "Throws `IndexOutOfBoundsException` if there is no such text";
@@ -44,16 +40,16 @@ final class LookSentences {
         });
         Sentences.holds("Throws `IndexOutOfBoundsException` if there is no such text or place", () -> {
             CutStore x = Examples.sharing();
-            Check.refusesEach(x, "text", Check.PLACE, text -> x.sign(text, 0, 0), NO_TEXTS);
-            Check.refusesEach(x, "place", Check.PLACE, place -> x.sign(2, place, 0), -1, 2, 40, LEAST_INT, GREATEST_INT);
+            Check.refusesBeyond(x, "text", Check.PLACE, text -> x.sign(text, 0, 0), -1, 4);
+            Check.refusesBeyond(x, "place", Check.PLACE, place -> x.sign(2, place, 0), -1, 2, 40);
             x.drop(2);
             Check.refusesEach(x, "place of an empty text", Check.PLACE, place -> x.sign(2, place, 0), -1, 0, 1);
-            Check.put(x, 2, FORTY);
+            Check.put(x, 2, Examples.FORTY);
             Check.refusesEach(x, "place of forty", Check.PLACE, place -> x.sign(2, place, 0), 40, 41);
         });
         Sentences.holds("Throws `IllegalArgumentException` if what is not 0 to 3", () -> {
             CutStore x = Examples.sharing();
-            Check.refusesEach(x, "what", Check.ARGUMENT, what -> x.sign(0, 0, what), -1, 4, LEAST_INT, GREATEST_INT);
+            Check.refusesBeyond(x, "what", Check.ARGUMENT, what -> x.sign(0, 0, what), -1, 4);
         });
     }
 
@@ -82,13 +78,13 @@ final class LookSentences {
 
     private static void fortyPieces() {
         CutStore x = Examples.evenly(1);
-        Check.put(x, 0, FORTY);
+        Check.put(x, 0, Examples.FORTY);
         for (int place = 0; place <= 39; place++) {
             Check.same("piece of its own", x.sign(0, place, 2), place);
             Check.same("which ends", x.sign(0, place, 3), 1);
         }
         x.set(3, 6);
-        Check.put(x, 0, FORTY);
+        Check.put(x, 0, Examples.FORTY);
         for (int place = 0; place <= 39; place++) {
             Check.same("piece of six", x.sign(0, place, 2), place / 6);
             Check.same("which ends", x.sign(0, place, 3), place % 6 == 5 || place == 39 ? 1 : 0);
@@ -104,7 +100,7 @@ final class LookSentences {
         });
         Sentences.holds("`piece`: its number in the text, from 0", () -> {
             CutStore x = Examples.evenly(1);
-            Check.put(x, 0, FORTY);
+            Check.put(x, 0, Examples.FORTY);
             Check.same("the first", x.piece(0, 0, 1), 0);
             Check.same("the last of forty", x.piece(0, 39, 1), 39);
         });
@@ -114,20 +110,20 @@ final class LookSentences {
                 Check.same("the last, " + what, x.piece(0, 3, what) == CutStore.NONE ? 1 : 0, 0);
                 Check.same("behind the last, " + what, x.piece(0, 4, what), CutStore.NONE);
                 Check.same("far behind it, " + what, x.piece(0, 40, what), CutStore.NONE);
-                Check.same("the greatest int, " + what, x.piece(0, GREATEST_INT, what), CutStore.NONE);
+                Check.same("the greatest int, " + what, x.piece(0, Integer.MAX_VALUE, what), CutStore.NONE);
             }
             x.drop(0);
             Check.same("of an empty text", x.piece(0, 0, 0), CutStore.NONE);
         });
         Sentences.holds(NO_TEXT, () -> {
             CutStore x = Examples.sharing();
-            Check.refusesEach(x, "text", Check.PLACE, text -> x.piece(text, 0, 0), NO_TEXTS);
-            Check.refusesEach(x, "text, of which there are not so many", Check.PLACE, text -> x.piece(text, 9, 0), NO_TEXTS);
+            Check.refusesBeyond(x, "text", Check.PLACE, text -> x.piece(text, 0, 0), -1, 4);
+            Check.refusesBeyond(x, "text, of which there are not so many", Check.PLACE, text -> x.piece(text, 9, 0), -1, 4);
         });
         Sentences.holds("Throws `IllegalArgumentException` if piece is below 0, or what is not 0 to 4", () -> {
             CutStore x = Examples.sharing();
-            Check.refusesEach(x, "piece", Check.ARGUMENT, piece -> x.piece(0, piece, 0), -1, -2, LEAST_INT);
-            Check.refusesEach(x, "what", Check.ARGUMENT, what -> x.piece(0, 0, what), -1, 5, LEAST_INT, GREATEST_INT);
+            Check.refusesEach(x, "piece", Check.ARGUMENT, piece -> x.piece(0, piece, 0), -1, -2, Integer.MIN_VALUE);
+            Check.refusesBeyond(x, "what", Check.ARGUMENT, what -> x.piece(0, 0, what), -1, 5);
             Check.refusesEach(x, "what behind the last", Check.ARGUMENT, what -> x.piece(0, 4, what), -1, 5);
             Check.refusesEach(x, "piece of an empty text", Check.ARGUMENT, piece -> new CutStore().piece(0, piece, 0), -1);
         });
@@ -193,11 +189,11 @@ final class LookSentences {
         });
         Sentences.holds("Throws `IndexOutOfBoundsException` if there is no such slot", () -> {
             CutStore x = Examples.withoutSlots();
-            Check.refusesEach(x, "slot", Check.PLACE, slot -> x.slot(slot, 0), -1, 60, LEAST_INT, GREATEST_INT);
+            Check.refusesBeyond(x, "slot", Check.PLACE, slot -> x.slot(slot, 0), -1, 60);
         });
         Sentences.holds(WHAT_0_TO_4, () -> {
             CutStore x = Examples.sharing();
-            Check.refusesEach(x, "what", Check.ARGUMENT, what -> x.slot(0, what), -1, 5, LEAST_INT, GREATEST_INT);
+            Check.refusesBeyond(x, "what", Check.ARGUMENT, what -> x.slot(0, what), -1, 5);
             Check.refusesEach(x, "what of a free one", Check.ARGUMENT, what -> x.slot(59, what), -1, 5);
         });
     }
@@ -246,11 +242,11 @@ final class LookSentences {
         });
         Sentences.holds(NO_TEXT, () -> {
             CutStore x = Examples.sharing();
-            Check.refusesEach(x, "text", Check.PLACE, text -> x.text(text, 0), NO_TEXTS);
+            Check.refusesBeyond(x, "text", Check.PLACE, text -> x.text(text, 0), -1, 4);
         });
         Sentences.holds("Throws `IllegalArgumentException` if what is not 0 to 5", () -> {
             CutStore x = Examples.sharing();
-            Check.refusesEach(x, "what", Check.ARGUMENT, what -> x.text(0, what), -1, 6, LEAST_INT, GREATEST_INT);
+            Check.refusesBeyond(x, "what", Check.ARGUMENT, what -> x.text(0, what), -1, 6);
         });
     }
 
@@ -270,8 +266,11 @@ final class LookSentences {
                     x.set(2, 0);
                     x.copy(1, 0);
                     Check.same("not alone any more", x.text(0, 5), 0);
+                    Check.put(x, 3, "ghghgh");
+                    Check.put(x, 3, "gh");
+                    Check.same("once less than before", x.text(3, 5), 2);
                     CutStore y = Examples.byForce(20);
-                    Check.put(y, 0, FORTY);
+                    Check.put(y, 0, Examples.FORTY);
                     int[] alike = {40, 2, 1, 2, 20, 40};
                     for (int what = 0; what <= 5; what++) {
                         Check.same("forty alike, " + what, y.text(0, what), alike[what]);
@@ -305,12 +304,12 @@ final class LookSentences {
         });
         Sentences.holds(NO_TEXT, () -> {
             CutStore x = Examples.sharing();
-            Check.refusesEach(x, "one", Check.PLACE, one -> x.common(one, 0, 0), NO_TEXTS);
-            Check.refusesEach(x, "other", Check.PLACE, other -> x.common(0, other, 0), NO_TEXTS);
+            Check.refusesBeyond(x, "one", Check.PLACE, one -> x.common(one, 0, 0), -1, 4);
+            Check.refusesBeyond(x, "other", Check.PLACE, other -> x.common(0, other, 0), -1, 4);
         });
         Sentences.holds("Throws `IllegalArgumentException` if what is not 0 to 2", () -> {
             CutStore x = Examples.sharing();
-            Check.refusesEach(x, "what", Check.ARGUMENT, what -> x.common(0, 1, what), -1, 3, LEAST_INT, GREATEST_INT);
+            Check.refusesBeyond(x, "what", Check.ARGUMENT, what -> x.common(0, 1, what), -1, 3);
         });
     }
 
@@ -370,7 +369,7 @@ final class LookSentences {
         Sentences.holds(NUMBER, () -> {
             countsAre(new CutStore(), 0, 0, 0, 0, 0, 0, 0, 0, 0, 0);
             CutStore x = Examples.evenly(1);
-            Check.put(x, 0, FORTY);
+            Check.put(x, 0, Examples.FORTY);
             x.copy(1, 0);
             x.copy(2, 0);
             x.copy(3, 0);
@@ -380,7 +379,7 @@ final class LookSentences {
         });
         Sentences.holds("Throws `IllegalArgumentException` if what is not 0 to 9", () -> {
             CutStore x = Examples.sharing();
-            Check.refusesEach(x, "what", Check.ARGUMENT, what -> x.count(what), -1, 10, LEAST_INT, GREATEST_INT);
+            Check.refusesBeyond(x, "what", Check.ARGUMENT, what -> x.count(what), -1, 10);
         });
     }
 
@@ -417,7 +416,7 @@ final class LookSentences {
         });
         Sentences.holds("Throws `IndexOutOfBoundsException` if there is no such setting", () -> {
             CutStore x = new CutStore();
-            Check.refusesEach(x, "setting", Check.PLACE, setting -> x.setting(setting), -1, 5, LEAST_INT, GREATEST_INT);
+            Check.refusesBeyond(x, "setting", Check.PLACE, setting -> x.setting(setting), -1, 5);
         });
     }
 }

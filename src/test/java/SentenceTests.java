@@ -9,6 +9,7 @@ public final class SentenceTests {
 
     public static void main(String[] args) throws IOException {
         TermSentences.tests();
+        StoreSentences.tests();
         TextSentences.tests();
         BufferSentences.tests();
         LookSentences.tests();

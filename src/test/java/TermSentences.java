@@ -3,17 +3,6 @@ import java.lang.reflect.Modifier;
 
 /** The sentences of the document's terms. */
 final class TermSentences {
-    private static final int LEAST_INT = Integer.MIN_VALUE;
-    private static final int GREATEST_INT = Integer.MAX_VALUE;
-    private static final int[] LOWEST = {1, 1, 0, 1, 6};
-    private static final int[] HIGHEST = {6, 9, 8, 6, 20};
-    private static final int[] FIRST = {3, 4, 0, 2, 10};
-    private static final String FORTY = "a9a9a9a9a4";
-
-    private static final String SWEEPS = "If the new pieces need more free slots, or more room, than there are (behind"
-            + " the loss of owners), all pieces are swept that have no owners then and are none of the new ones; if"
-            + " there are not enough slots or room then either, the change is refused, and nothing is changed.";
-
     private TermSentences() {
     }
 
@@ -23,11 +12,6 @@ final class TermSentences {
         sums();
         cuts();
         cutAnew();
-        store();
-        sizeOfTheStore();
-        sweepsForSlots();
-        sweepsForRoom();
-        refusals();
         settings();
         inputText();
         undo();
@@ -68,7 +52,7 @@ final class TermSentences {
             Check.put(x, 0, "gh");
             Check.same("the first place", x.sign(0, 0, 0), 7);
             Check.same("the last place", x.sign(0, 1, 0), 8);
-            Check.refusesEach(x, "place", Check.PLACE, place -> x.sign(0, place, 0), -1, 2, LEAST_INT, GREATEST_INT);
+            Check.refusesBeyond(x, "place", Check.PLACE, place -> x.sign(0, place, 0), -1, 2);
         });
     }
 
@@ -81,17 +65,17 @@ final class TermSentences {
         for (int text = 0; text <= 3; text++) {
             Check.same("signs of text " + text, x.text(text, 0), text + 2);
         }
-        Check.refusesEach(x, "text", Check.PLACE, text -> x.text(text, 0), -1, 4, LEAST_INT, GREATEST_INT);
+        Check.refusesBeyond(x, "text", Check.PLACE, text -> x.text(text, 0), -1, 4);
     }
 
     private static void nothingToForty() {
         CutStore x = new CutStore();
-        Check.put(x, 0, FORTY);
+        Check.put(x, 0, Examples.FORTY);
         Check.same("forty signs", x.text(0, 0), 40);
         Check.type(x, "h");
         Check.refuses(x, "the sign 41", Check.STATE, () -> x.insert(0, 40));
         x.clearBuffer();
-        Check.type(x, FORTY + "a");
+        Check.type(x, Examples.FORTY + "a");
         Check.refuses(x, "put of 41", Check.ARGUMENT, () -> x.put(0));
         Check.same("pieces of no signs", x.takeOut(0, 0, 40), 0);
         Check.same("no signs", x.text(0, 0), 0);
@@ -160,7 +144,7 @@ final class TermSentences {
                     forcedIs(x, "a6", 1);
                     forcedIs(x, "a5", 0);
                     x.set(4, 20);
-                    forcedIs(x, FORTY, 1, 1);
+                    forcedIs(x, Examples.FORTY, 1, 1);
                     forcedIs(x, "a9a9a", 0);
                     // The sums of six "a" are 1 3 6 6 6 6: 6 has the rest 0 by 6.
                     x.set(4, 6);
@@ -190,7 +174,7 @@ final class TermSentences {
     private static void greatestLengths() {
         for (int greatest = 6; greatest <= 20; greatest++) {
             CutStore x = Examples.byForce(greatest);
-            Check.put(x, 0, FORTY);
+            Check.put(x, 0, Examples.FORTY);
             Check.same("pieces", x.text(0, 1), (39 + greatest) / greatest);
             Check.same("greatest length " + greatest, x.piece(0, 0, 2), greatest);
             Check.same("the next one too", x.piece(0, 1, 2), greatest);
@@ -198,27 +182,28 @@ final class TermSentences {
     }
 
     private static void divisorAndRest() {
-        CutStore x = new CutStore();
-        x.set(0, 1);
-        x.set(3, 1);
-        String[] due = {"a b c d e f g h", "ab cd ef gh", "abc def gh", "abcd efgh", "abcde fgh", "abcdef gh",
+        String[] byDivisor = {"a b c d e f g h", "ab cd ef gh", "abc def gh", "abcd efgh", "abcde fgh", "abcdef gh",
             "abcdefg h", "abcdefgh", "abcdefgh"};
         for (int divisor = 1; divisor <= 9; divisor++) {
-            x.set(1, divisor);
-            Check.put(x, 0, "abcdefgh");
-            Check.hasPieces("divisor " + divisor, x, 0, due[divisor - 1]);
+            cutWithOneSignASum(divisor, 0, "abcdefgh", byDivisor[divisor - 1]);
         }
         String[] byRest = {"abcdefgh", "a bcdefgh", "ab cdefgh", "abc defgh", "abcd efgh", "abcde fgh", "abcdef gh",
-            "abcdefg h", "abcdefgh"};
+            "abcdefg h", "abcdefgh a"};
         for (int rest = 0; rest <= 8; rest++) {
-            x.set(2, rest);
-            Check.put(x, 0, "abcdefgha".substring(0, 8));
-            Check.hasPieces("rest " + rest, x, 0, byRest[rest]);
+            cutWithOneSignASum(9, rest, rest < 8 ? "abcdefgh" : "abcdefgha", byRest[rest]);
         }
-        x.set(1, 4);
-        x.set(2, 4);
-        Check.put(x, 0, "abcdabcd");
-        Check.hasPieces("a rest as great as the divisor", x, 0, "abcdabcd");
+        cutWithOneSignASum(4, 4, "abcdabcd", "abcdabcd");
+        cutWithOneSignASum(1, 1, "abcdabcd", "abcdabcd");
+    }
+
+    private static void cutWithOneSignASum(int divisor, int rest, String signs, String pieces) {
+        CutStore x = new CutStore();
+        x.set(0, 1);
+        x.set(1, divisor);
+        x.set(2, rest);
+        x.set(3, 1);
+        Check.put(x, 0, signs);
+        Check.hasPieces("modulo " + divisor + ", rest " + rest, x, 0, pieces);
     }
 
     private static void lastSigns() {
@@ -275,250 +260,12 @@ final class TermSentences {
         Check.put(x, 0, "abcdefaaaaaaaaaa");
         String pieces = Check.pieces(x, 0);
         for (int setting = 0; setting <= 4; setting++) {
-            x.set(setting, LOWEST[setting]);
-            x.set(setting, HIGHEST[setting]);
+            x.set(setting, Examples.LOWEST[setting]);
+            x.set(setting, Examples.HIGHEST[setting]);
             x.sweep();
             Check.put(x, 1, "aaaabcd");
             Check.hasPieces("behind setting " + setting, x, 0, pieces);
         }
-    }
-
-    private static void store() {
-        Sentences.part("Store");
-        Sentences.holds("The store keeps pieces: each row of signs just once, on a slot, 0 to 59, with its owners.", () -> {
-            CutStore x = Examples.evenly(2);
-            Check.put(x, 0, "ababcdab");
-            x.copy(1, 0);
-            Check.same("rows", x.count(2), 2);
-            Check.same("alike pieces have one slot", x.piece(1, 3, 0), x.piece(0, 0, 0));
-            CutStore full = Examples.withoutSlots();
-            for (int slot = 0; slot <= 59; slot++) {
-                Check.same("the slot of piece " + slot, full.piece(slot / 20, slot % 20, 0), slot);
-                Check.same("owners on slot " + slot, full.slot(slot, 1), 1);
-            }
-            rowsOfUnlikeLengths();
-            rowsOfTwentySigns();
-        });
-        Sentences.holds("The owners of a piece are how many times it is in a text, of all texts together.", () -> {
-            CutStore x = Examples.evenly(1);
-            Check.put(x, 0, "aabaa");
-            Check.same("in one text", x.slot(0, 1), 4);
-            Check.put(x, 1, FORTY);
-            x.copy(2, 1);
-            x.copy(3, 1);
-            Check.same("in all texts", x.slot(0, 1), 124);
-            x.copy(0, 1);
-            Check.same("the most owners", x.slot(0, 1), 160);
-            Check.same("not any more", x.slot(1, 1), 0);
-        });
-        Sentences.holds("When a text changes, its old pieces lose it as an owner (each as often as it was in it), and"
-                + " then its new ones, in their order, get it: a row of signs that the store keeps has its slot;"
-                + " another one comes to the lowest free slot.", () -> {
-                    losingAndGetting();
-                    lowestFreeSlots();
-                });
-        Sentences.holds("A piece without owners stays in the store until it is swept.", () -> {
-            CutStore x = Examples.evenly(2);
-            Check.put(x, 0, "abcd");
-            Check.put(x, 0, "cd");
-            x.drop(0);
-            Check.put(x, 1, "ef");
-            Check.same("both stay", x.count(2), 3);
-            Check.same("without owners", x.count(4), 2);
-            Check.same("on its slot", x.slot(0, 0), 2);
-            Check.same("no owners", x.slot(0, 1), 0);
-            Check.same("swept", x.sweep(), 2);
-            Check.same("gone", x.slot(0, 1), CutStore.NONE);
-        });
-    }
-
-    private static void rowsOfUnlikeLengths() {
-        CutStore x = Examples.byForce(20);
-        for (int signs = 1; signs <= 16; signs++) {
-            Check.put(x, 0, "aaaaaaaaaaaaaaaa".substring(0, signs));
-            Check.same("rows", x.count(2), signs);
-            Check.same("the length of the row", x.slot(signs - 1, 0), signs);
-        }
-    }
-
-    private static void rowsOfTwentySigns() {
-        CutStore x = Examples.byForce(20);
-        Check.put(x, 0, "h9h9h2h9h9h2");
-        Check.same("alike ones of twenty", x.count(2), 1);
-        Check.put(x, 0, "dh9h9hh9h9h2");
-        Check.same("unlike in the first sign", x.count(2), 2);
-        Check.put(x, 0, "h9h9hgh9h9h2");
-        Check.same("unlike in the last sign", x.count(2), 3);
-        Check.put(x, 0, "h9dh9hh9h9h2");
-        Check.same("unlike in the middle", x.count(2), 4);
-    }
-
-    private static void losingAndGetting() {
-        CutStore x = Examples.evenly(2);
-        Check.put(x, 0, "abababcd");
-        Check.put(x, 1, "ab");
-        Check.put(x, 0, "efcdef");
-        Check.same("lost as often as it was in it", x.slot(0, 1), 1);
-        Check.same("kept, lost once and got once", x.slot(1, 1), 1);
-        Check.same("got as often as it is in it", x.slot(2, 1), 2);
-        Check.same("a new one, behind the old ones", x.piece(0, 0, 0), 2);
-        Check.same("a row that the store keeps", x.piece(0, 1, 0), 1);
-        Check.same("came so far", x.count(7), 3);
-        x.drop(1);
-        Check.put(x, 3, "ghab");
-        Check.same("a row without owners has its slot too", x.piece(3, 1, 0), 0);
-        Check.same("and its new owner", x.slot(0, 1), 1);
-    }
-
-    private static void lowestFreeSlots() {
-        CutStore x = Examples.evenly(2);
-        Check.put(x, 0, "aabbccddee");
-        Check.put(x, 0, "bbdd");
-        x.sweep();
-        Check.put(x, 1, "hhgghhffccddaa");
-        int[] slots = {0, 2, 0, 4, 5, 3, 6};
-        for (int piece = 0; piece < slots.length; piece++) {
-            Check.same("in their order, piece " + piece, x.piece(1, piece, 0), slots[piece]);
-        }
-    }
-
-    private static void sizeOfTheStore() {
-        Sentences.holds("The size of the store is the sum of the lengths of all pieces that it keeps, also of those"
-                + " without owners; it is at most 150.", () -> {
-                    CutStore x = Examples.evenly(2);
-                    Check.put(x, 0, "ababcde");
-                    Check.same("alike ones count once", x.count(3), 5);
-                    x.drop(0);
-                    Check.same("without owners", x.count(3), 5);
-                    CutStore full = Examples.withoutRoom();
-                    Check.same("the greatest size", full.count(3), 150);
-                    Check.type(full, "h");
-                    Check.refuses(full, "151", Check.STATE, () -> full.insert(3, 30));
-                    full.undo();
-                    full.clearBuffer();
-                    Check.type(full, "g9g9g2h9h2");
-                    Check.refuses(full, "151 at once", Check.STATE, () -> full.put(3));
-                });
-    }
-
-    /** 58 slots are used, 20 of them without owners; text 0 and text 3 are empty. */
-    private static CutStore withTwoFreeSlots() {
-        CutStore x = Examples.evenly(2);
-        Check.put(x, 0, Examples.PAIRS_0);
-        Check.put(x, 1, Examples.PAIRS_1);
-        Check.put(x, 2, Examples.PAIRS_2.substring(0, 36));
-        x.drop(0);
-        return x;
-    }
-
-    private static void sweepsForSlots() {
-        Sentences.holds(SWEEPS, () -> {
-            CutStore x = withTwoFreeSlots();
-            Check.put(x, 3, "hehfhehf");
-            Check.same("as many slots as it needs", x.count(8), 0);
-            Check.same("the last slot", x.piece(3, 3, 0), 59);
-            x.undo();
-            Check.put(x, 3, "hehfhhaahe");
-            Check.same("a slot more than there are", x.count(8), 19);
-            Check.same("all without owners are swept", x.count(4), 0);
-            Check.same("one of the new ones stays on its slot", x.piece(3, 3, 0), 0);
-            Check.same("and does not come anew", x.count(7), 61);
-            Check.same("the others come to the free slots", x.piece(3, 0, 0), 1);
-            Check.same("in their order", x.piece(3, 2, 0), 3);
-            Check.same("those with owners stay", x.piece(1, 0, 0), 20);
-
-            CutStore own = Examples.withoutSlots();
-            Check.put(own, 2, "hehf");
-            Check.same("what it was alone in is swept", own.count(8), 20);
-            Check.same("the lowest of the free slots", own.piece(2, 1, 0), 41);
-        });
-    }
-
-    /** 148 signs are kept, 40 of them without owners; text 0 is empty. */
-    private static CutStore withTwoSignsOfRoom() {
-        CutStore x = Examples.byForce(20);
-        Check.put(x, 0, "a9a9a2b9b9b2");
-        Check.put(x, 1, "c9c9c2d9d9d2");
-        Check.put(x, 2, "e9e9e2f9f9f2");
-        Check.put(x, 3, "g9g9g2h8");
-        x.drop(0);
-        return x;
-    }
-
-    private static void sweepsForRoom() {
-        Sentences.holds(SWEEPS, () -> {
-            CutStore x = withTwoSignsOfRoom();
-            Check.put(x, 0, "h2");
-            Check.same("as much room as it needs", x.count(8), 0);
-            Check.same("the greatest size", x.count(3), 150);
-            x.undo();
-            Check.put(x, 0, "b9b9b2c");
-            Check.same("one of the new ones that is kept needs no room", x.count(8), 0);
-            x.undo();
-            Check.put(x, 0, "b9b9b2h3");
-            Check.same("a sign more than there is", x.count(8), 1);
-            Check.same("one of the new ones stays", x.piece(0, 0, 0), 1);
-            Check.same("the other one comes to the free slot", x.piece(0, 1, 0), 0);
-            Check.same("the size then", x.count(3), 148 - 20 + 3);
-
-            CutStore own = Examples.withoutRoom();
-            Check.same("what it was alone in makes room", own.rotate(3, 1), 2);
-            Check.same("both are swept", own.count(8), 2);
-            Check.same("to the last sign", own.count(3), 150);
-            CutStore alike = Examples.withoutRoom();
-            Check.put(alike, 3, "g9g9g2g9g9g2");
-            Check.same("alike new pieces need room once", alike.count(8), 0);
-        });
-    }
-
-    /** All slots are used, the last one has "hd" without owners; text 3 is "ab aa bb cc". */
-    private static CutStore nearlyWithoutSlots() {
-        CutStore x = Examples.withoutSlots();
-        x.takeOut(2, 38, 2);
-        Check.put(x, 3, "abaabbcc");
-        return x;
-    }
-
-    /** 30 signs of room are left; text 3 is the same as text 2. */
-    private static CutStore nearlyWithoutRoom() {
-        CutStore x = Examples.byForce(20);
-        Check.put(x, 0, "a9a9a2b9b9b2");
-        Check.put(x, 1, "c9c9c2d9d9d2");
-        Check.put(x, 2, "e9e9e2f9f9f2");
-        x.copy(3, 2);
-        return x;
-    }
-
-    private static void refusals() {
-        Sentences.holds(SWEEPS, () -> {
-            CutStore x = nearlyWithoutSlots();
-            x.set(3, 3);
-            Check.type(x, "hefhff");
-            Check.refuses(x, "put without slots", Check.STATE, () -> x.put(3));
-            Check.refuses(x, "insert without slots", Check.STATE, () -> x.insert(3, 0));
-            Check.refuses(x, "takeOut without slots", Check.STATE, () -> x.takeOut(3, 0, 1));
-            Check.refuses(x, "rotate without slots", Check.STATE, () -> x.rotate(3, 1));
-            Check.refuses(x, "copy without slots", Check.STATE, () -> x.copy(3, 0));
-            Check.same("nothing is swept", x.slot(59, 1), 0);
-            Check.same("the buffer is not cleared", x.clearBuffer(), 6);
-            Check.type(x, "hef");
-            Check.same("with the one slot behind a sweep", x.put(3), 1);
-            Check.same("it comes to that slot", x.piece(3, 0, 0), 59);
-
-            CutStore y = nearlyWithoutRoom();
-            y.set(4, 19);
-            Check.type(y, "h");
-            Check.refuses(y, "insert without room", Check.STATE, () -> y.insert(3, 0));
-            Check.refuses(y, "takeOut without room", Check.STATE, () -> y.takeOut(3, 0, 1));
-            Check.refuses(y, "rotate without room", Check.STATE, () -> y.rotate(3, 1));
-            Check.refuses(y, "copy without room", Check.STATE, () -> y.copy(3, 0));
-            Check.type(y, "9h9h9g4");
-            Check.refuses(y, "put without room", Check.STATE, () -> y.put(3));
-            y.clearBuffer();
-            Check.type(y, "h9h9hg9g2");
-            Check.same("with all the room", y.put(3), 2);
-            Check.same("to the last sign", y.count(3), 150);
-        });
     }
 
     private static void settings() {
@@ -529,11 +276,10 @@ final class TermSentences {
                     for (int each = 0; each <= 4; each++) {
                         int setting = each;
                         CutStore x = new CutStore();
-                        Check.same("at first", x.setting(setting), FIRST[setting]);
-                        Check.refusesEach(x, "setting " + setting + " as", Check.ARGUMENT,
-                                value -> x.set(setting, value), LOWEST[setting] - 1, HIGHEST[setting] + 1, LEAST_INT,
-                                GREATEST_INT);
-                        for (int value = LOWEST[setting]; value <= HIGHEST[setting]; value++) {
+                        Check.same("at first", x.setting(setting), Examples.FIRST[setting]);
+                        Check.refusesBeyond(x, "setting " + setting + " as", Check.ARGUMENT,
+                                value -> x.set(setting, value), Examples.LOWEST[setting] - 1, Examples.HIGHEST[setting] + 1);
+                        for (int value = Examples.LOWEST[setting]; value <= Examples.HIGHEST[setting]; value++) {
                             x.set(setting, value);
                             Check.same("setting " + setting, x.setting(setting), value);
                         }
@@ -575,13 +321,13 @@ final class TermSentences {
                     isText("h9", "hhhhhhhhh");
                     isText("a2b3c4a", "aabbbcccca");
                     isText("aa2", "aaa");
-                    isText(FORTY, "a".repeat(40));
+                    isText(Examples.FORTY, "a".repeat(40));
                     isText("abcdefgh".repeat(5), "abcdefgh".repeat(5));
                     isText("a2".repeat(20), "a".repeat(40));
                     isText("b9".repeat(4) + "abcd", "b".repeat(36) + "abcd");
                     isText("a".repeat(31) + "h9", "a".repeat(31) + "h".repeat(9));
                     for (String other : new String[] {"", "i", "`", "A", "H", "1", "2", "9a", "a0", "a1", "a:", "a/",
-                        "a22", "a10", "ai", "a!b", FORTY + "a", FORTY + "2", "a".repeat(41),
+                        "a22", "a10", "ai", "a!b", Examples.FORTY + "a", Examples.FORTY + "2", "a".repeat(41),
                         "b9".repeat(4) + "abcde", "b9".repeat(4) + "abcd2", "a".repeat(32) + "h9", "a9".repeat(5)}) {
                         isNoText(other);
                     }
@@ -595,9 +341,9 @@ final class TermSentences {
                     errorIsAt("a33b", 2);
                     errorIsAt("a1b0", 1);
                     errorIsAt("ab~!", 2);
-                    errorIsAt(FORTY, 10);
-                    errorIsAt(FORTY + "!", 10);
-                    errorIsAt(FORTY + "2", 10);
+                    errorIsAt(Examples.FORTY, 10);
+                    errorIsAt(Examples.FORTY + "!", 10);
+                    errorIsAt(Examples.FORTY + "2", 10);
                     errorIsAt("a9a9a9a9a5", 9);
                     errorIsAt("a9a9a9a9aaaab", 12);
                     errorIsAt("a".repeat(40), 40);
@@ -655,32 +401,28 @@ final class TermSentences {
     }
 
     private static void savedByEach() {
-        isUndone("put", "abc", x -> x.put(3));
-        isUndone("insert", "abc", x -> x.insert(0, 1));
-        isUndone("takeOut", "", x -> x.takeOut(0, 1, 3));
-        isUndone("copy", "", x -> x.copy(0, 1));
-        isUndone("rotate", "", x -> x.rotate(0, 1));
-        isUndone("drop", "", x -> x.drop(0));
-        isUndone("sweep", "", x -> x.sweep());
-        isUndone("set", "", x -> x.set(0, 6));
+        Check.undoes(small(), "put", "abc", x -> x.put(3));
+        Check.undoes(small(), "insert", "abc", x -> x.insert(0, 1));
+        Check.undoes(small(), "takeOut", "", x -> x.takeOut(0, 1, 3));
+        Check.undoes(small(), "copy", "", x -> x.copy(0, 1));
+        Check.undoes(small(), "rotate", "", x -> x.rotate(0, 1));
+        Check.undoes(small(), "drop", "", x -> x.drop(0));
+        Check.undoes(small(), "sweep", "", x -> x.sweep());
+        Check.undoes(small(), "set", "", x -> x.set(0, 6));
     }
 
     private static void savedWithoutChange() {
-        isUndone("put of the same", "abcde", x -> x.put(0));
-        isUndone("copy of itself", "", x -> x.copy(0, 0));
-        isUndone("copy of an empty one", "", x -> x.copy(3, 2));
-        isUndone("rotate of all", "", x -> x.rotate(0, 5));
-        isUndone("drop of an empty one", "", x -> x.drop(3));
-        isUndone("sweep behind a sweep", "", x -> {
-            x.sweep();
-            x.undo();
-            return x.sweep();
-        });
-        isUndone("set of the same", "", x -> x.set(1, 1));
-    }
-
-    interface CallOn {
-        long answer(CutStore x);
+        Check.undoes(small(), "put of the same", "abcde", x -> x.put(0));
+        Check.undoes(small(), "copy of itself", "", x -> x.copy(0, 0));
+        Check.undoes(small(), "copy of an empty one", "", x -> x.copy(3, 2));
+        Check.undoes(small(), "rotate of all", "", x -> x.rotate(0, 5));
+        Check.undoes(small(), "drop of an empty one", "", x -> x.drop(3));
+        Check.undoes(new CutStore(), "sweep of an empty store", "", x -> x.sweep());
+        CutStore swept = small();
+        swept.undo();
+        swept.undo();
+        Check.undoes(swept, "sweep without pieces to sweep", "", x -> x.sweep());
+        Check.undoes(small(), "set of the same", "", x -> x.set(1, 1));
     }
 
     /** Text 0 is "ab cd e", text 1 "ef", and "gh" has no owners. */
@@ -691,16 +433,6 @@ final class TermSentences {
         Check.put(x, 1, "gh");
         Check.put(x, 1, "ef");
         return x;
-    }
-
-    private static void isUndone(String what, String characters, CallOn call) {
-        CutStore x = small();
-        long before = x.digest();
-        Check.type(x, characters);
-        call.answer(x);
-        Check.same(what + " saves", x.count(9), 5);
-        Check.same(what + ", left", x.undo(), 4);
-        Check.same(what + ", undone", x.digest(), before);
     }
 
     private static void notSaved() {
@@ -750,7 +482,7 @@ final class TermSentences {
             CutStore twin = Examples.withoutRoom();
             Check.type(x, "h");
             Check.type(twin, "h");
-            for (CallOn call : refusedCalls()) {
+            for (Check.CallOn call : refusedCalls()) {
                 Check.same("it is refused", isRefused(x, call) ? 1 : 0, 1);
                 Check.same("nothing is changed", x.digest(), twin.digest());
             }
@@ -781,8 +513,8 @@ final class TermSentences {
     }
 
     /** Of an object that has no room, with "h" in the buffer. */
-    private static CallOn[] refusedCalls() {
-        return new CallOn[] {x -> x.put(4), x -> x.insert(0, 41), x -> x.insert(0, 40), x -> x.insert(3, 0),
+    private static Check.CallOn[] refusedCalls() {
+        return new Check.CallOn[] {x -> x.put(4), x -> x.insert(0, 41), x -> x.insert(0, 40), x -> x.insert(3, 0),
             x -> x.takeOut(0, 40, 1), x -> x.takeOut(0, 39, 2), x -> x.copy(0, -1), x -> x.copy(4, 0),
             x -> x.rotate(0, 41), x -> x.rotate(-1, 1), x -> x.drop(-1), x -> x.set(5, 1), x -> x.set(0, 0),
             x -> x.append(127), x -> x.sign(0, 40, 0), x -> x.sign(0, 0, 4), x -> x.piece(0, -1, 0),
@@ -790,7 +522,7 @@ final class TermSentences {
             x -> x.count(10), x -> x.setting(5), x -> x.ifPut(0, 4), x -> x.ifSet(0, 0, 7)};
     }
 
-    private static boolean isRefused(CutStore x, CallOn call) {
+    private static boolean isRefused(CutStore x, Check.CallOn call) {
         try {
             call.answer(x);
             return false;
@@ -837,7 +569,7 @@ final class TermSentences {
         Check.refuses(x, "ifSet: setting, value", Check.PLACE, () -> x.ifSet(0, 5, -1));
     }
 
-    private static void changesNothing(CallOn calls) {
+    private static void changesNothing(Check.CallOn calls) {
         CutStore x = Examples.sharing();
         CutStore twin = Examples.sharing();
         Check.type(x, "ghgh");

@@ -1,9 +1,5 @@
 /** The sentences of promises 1 to 9: a new object, and the calls that change texts. */
 final class TextSentences {
-    private static final int LEAST_INT = Integer.MIN_VALUE;
-    private static final int GREATEST_INT = Integer.MAX_VALUE;
-    private static final int[] NO_TEXTS = {-1, 4, LEAST_INT, GREATEST_INT};
-    private static final String FORTY = "a9a9a9a9a4";
     private static final String NO_TEXT = "Throws `IndexOutOfBoundsException` if there is no such text";
     private static final String NO_PLACE = NO_TEXT + " or place";
     private static final String NOT_COMPLETE =
@@ -28,22 +24,6 @@ final class TextSentences {
         drop();
         sweep();
         set();
-    }
-
-    interface Change {
-        int answer(CutStore x);
-    }
-
-    /** The call on the object saves one state, and undo brings back what was before the characters were typed. */
-    private static void isUndoable(CutStore x, String characters, Change call) {
-        long before = x.digest();
-        int saved = x.count(9);
-        Check.same("less than six are saved, which", saved < 6 ? 1 : 0, 1);
-        Check.type(x, characters);
-        call.answer(x);
-        Check.same("saved", x.count(9), saved + 1);
-        Check.same("left", x.undo(), saved);
-        Check.same("as before", x.digest(), before);
     }
 
     /** Text 0 is "ab cd e", text 1 "cd", and "gh" has no owners. */
@@ -87,14 +67,14 @@ final class TextSentences {
             Check.same("the buffer", x.clearBuffer(), 0);
             Check.put(x, 0, "h3");
             Check.hasPieces("nothing of the old one is left", x, 0, "hh h");
-            Check.put(x, 1, FORTY);
+            Check.put(x, 1, Examples.FORTY);
             Check.same("forty signs", x.text(1, 0), 40);
             Check.hasPieces("the others stay", x, 0, "hh h");
         });
         Sentences.holds("Undoable.", () -> {
-            isUndoable(small(), "fgh", x -> x.put(0));
-            isUndoable(small(), "fgh", x -> x.put(3));
-            isUndoable(small(), "abcde", x -> x.put(0));
+            Check.undoes(small(), "put", "fgh", x -> x.put(0));
+            Check.undoes(small(), "put", "fgh", x -> x.put(3));
+            Check.undoes(small(), "put", "abcde", x -> x.put(0));
         });
         Sentences.holds("`text`: 0 to 3", () -> {
             CutStore x = new CutStore();
@@ -105,20 +85,20 @@ final class TextSentences {
         Sentences.holds(PIECES, () -> {
             CutStore x = Examples.evenly(1);
             Check.same("one", Check.put(x, 0, "h"), 1);
-            Check.same("forty", Check.put(x, 0, FORTY), 40);
+            Check.same("forty", Check.put(x, 0, Examples.FORTY), 40);
             x.set(3, 6);
-            Check.same("cut anew", Check.put(x, 0, FORTY), 7);
+            Check.same("cut anew", Check.put(x, 0, Examples.FORTY), 7);
         });
         Sentences.holds(NO_TEXT, () -> {
             CutStore x = small();
             Check.type(x, "ab");
-            Check.refusesEach(x, "text", Check.PLACE, text -> x.put(text), NO_TEXTS);
+            Check.refusesBeyond(x, "text", Check.PLACE, text -> x.put(text), -1, 4);
             Check.same("the buffer stays", x.clearBuffer(), 2);
         });
         Sentences.holds(NOT_COMPLETE, () -> {
             CutStore x = small();
             Check.refuses(x, "an empty buffer", Check.ARGUMENT, () -> x.put(0));
-            for (String characters : new String[] {"3", "a1", "a22", "abi", FORTY + "a", "a9a9a9a9a5"}) {
+            for (String characters : new String[] {"3", "a1", "a22", "abi", Examples.FORTY + "a", "a9a9a9a9a5"}) {
                 Check.type(x, characters);
                 Check.refuses(x, characters, Check.ARGUMENT, () -> x.put(0));
                 Check.same("the buffer stays", x.clearBuffer(), characters.length());
@@ -150,8 +130,8 @@ final class TextSentences {
                     inserted(x, "f3h", 5, "ca eb df ff hd");
                 });
         Sentences.holds("Undoable.", () -> {
-            isUndoable(small(), "fgh", x -> x.insert(0, 2));
-            isUndoable(small(), "a", x -> x.insert(3, 0));
+            Check.undoes(small(), "insert", "fgh", x -> x.insert(0, 2));
+            Check.undoes(small(), "insert", "a", x -> x.insert(3, 0));
         });
         Sentences.holds(PIECES, () -> {
             CutStore x = Examples.evenly(1);
@@ -164,7 +144,7 @@ final class TextSentences {
         Sentences.holds(NOT_COMPLETE, () -> {
             CutStore x = small();
             Check.refuses(x, "an empty buffer", Check.ARGUMENT, () -> x.insert(0, 0));
-            for (String characters : new String[] {"3", "a1", "i", FORTY + "a", FORTY + "a9"}) {
+            for (String characters : new String[] {"3", "a1", "i", Examples.FORTY + "a", Examples.FORTY + "a9"}) {
                 Check.type(x, characters);
                 Check.refuses(x, characters, Check.ARGUMENT, () -> x.insert(0, 5));
                 Check.same("the buffer stays", x.clearBuffer(), characters.length());
@@ -202,8 +182,8 @@ final class TextSentences {
         Sentences.holds(NO_PLACE, () -> {
             CutStore x = small();
             Check.type(x, "ab");
-            Check.refusesEach(x, "text", Check.PLACE, text -> x.insert(text, 0), NO_TEXTS);
-            Check.refusesEach(x, "place", Check.PLACE, place -> x.insert(0, place), -1, 6, LEAST_INT, GREATEST_INT);
+            Check.refusesBeyond(x, "text", Check.PLACE, text -> x.insert(text, 0), -1, 4);
+            Check.refusesBeyond(x, "place", Check.PLACE, place -> x.insert(0, place), -1, 6);
             Check.refusesEach(x, "place of an empty text", Check.PLACE, place -> x.insert(3, place), -1, 1);
             Check.same("the buffer stays", x.clearBuffer(), 2);
         });
@@ -215,7 +195,7 @@ final class TextSentences {
             Check.same("the buffer stays", x.clearBuffer(), 2);
             Check.type(x, "a");
             Check.same("40", x.insert(0, 0), 7);
-            Check.type(x, FORTY);
+            Check.type(x, Examples.FORTY);
             Check.refuses(x, "80", Check.STATE, () -> x.insert(0, 20));
             CutStore y = Examples.withoutSlots();
             Check.type(y, "h");
@@ -243,12 +223,12 @@ final class TextSentences {
             Check.hasPieces("the others stay", x, 1, "ab cd ef gh");
         });
         Sentences.holds("Undoable.", () -> {
-            isUndoable(small(), "", x -> x.takeOut(0, 1, 2));
-            isUndoable(small(), "", x -> x.takeOut(0, 0, 5));
+            Check.undoes(small(), "takeOut", "", x -> x.takeOut(0, 1, 2));
+            Check.undoes(small(), "takeOut", "", x -> x.takeOut(0, 0, 5));
         });
         Sentences.holds(PIECES, () -> {
             CutStore x = Examples.evenly(1);
-            Check.put(x, 0, FORTY);
+            Check.put(x, 0, Examples.FORTY);
             Check.same("all but one", x.takeOut(0, 20, 1), 39);
             Check.same("one", x.takeOut(0, 0, 38), 1);
             Check.same("none", x.takeOut(0, 0, 1), 0);
@@ -289,7 +269,7 @@ final class TextSentences {
         });
         Sentences.holds("`many`: 1 to 40, at most as many as there are from this place on", () -> {
             CutStore x = Examples.evenly(6);
-            Check.put(x, 0, FORTY);
+            Check.put(x, 0, Examples.FORTY);
             Check.refusesEach(x, "many from the place 30", Check.ARGUMENT, many -> x.takeOut(0, 30, many), 0, 11, 40);
             Check.refusesEach(x, "many from the last place", Check.ARGUMENT, many -> x.takeOut(0, 39, many), 0, 2);
             x.takeOut(0, 30, 10);
@@ -303,17 +283,15 @@ final class TextSentences {
         });
         Sentences.holds(NO_PLACE, () -> {
             CutStore x = small();
-            Check.refusesEach(x, "text", Check.PLACE, text -> x.takeOut(text, 0, 1), NO_TEXTS);
-            Check.refusesEach(x, "place", Check.PLACE, place -> x.takeOut(0, place, 1), -1, 5, LEAST_INT, GREATEST_INT);
+            Check.refusesBeyond(x, "text", Check.PLACE, text -> x.takeOut(text, 0, 1), -1, 4);
+            Check.refusesBeyond(x, "place", Check.PLACE, place -> x.takeOut(0, place, 1), -1, 5);
             Check.refusesEach(x, "place of an empty text", Check.PLACE, place -> x.takeOut(3, place, 1), -1, 0, 1);
         });
         Sentences.holds(MANY_IS_WRONG, () -> {
             CutStore x = small();
-            Check.refusesEach(x, "many of five", Check.ARGUMENT, many -> x.takeOut(0, 0, many), -1, 0, 6, 40, 41,
-                    LEAST_INT, GREATEST_INT);
-            Check.refusesEach(x, "many of the last one", Check.ARGUMENT, many -> x.takeOut(0, 4, many), -4, 0, 2, 5,
-                    LEAST_INT, GREATEST_INT);
-            Check.put(x, 0, FORTY);
+            Check.refusesBeyond(x, "many of five", Check.ARGUMENT, many -> x.takeOut(0, 0, many), -1, 0, 6, 40, 41);
+            Check.refusesBeyond(x, "many of the last one", Check.ARGUMENT, many -> x.takeOut(0, 4, many), -4, 0, 2, 5);
+            Check.put(x, 0, Examples.FORTY);
             Check.refusesEach(x, "many of forty", Check.ARGUMENT, many -> x.takeOut(0, 0, many), 0, 41);
         });
     }
@@ -330,9 +308,9 @@ final class TextSentences {
             Check.hasPieces("by itself from then on", x, 1, "ab cd e");
         });
         Sentences.holds("Undoable.", () -> {
-            isUndoable(small(), "", x -> x.copy(1, 0));
-            isUndoable(small(), "", x -> x.copy(0, 0));
-            isUndoable(small(), "", x -> x.copy(0, 3));
+            Check.undoes(small(), "copy", "", x -> x.copy(1, 0));
+            Check.undoes(small(), "copy", "", x -> x.copy(0, 0));
+            Check.undoes(small(), "copy", "", x -> x.copy(0, 3));
         });
         Sentences.holds("`text`: 0 to 3, the one that becomes another", () -> {
             CutStore x = small();
@@ -362,8 +340,8 @@ final class TextSentences {
         });
         Sentences.holds(NO_TEXT, () -> {
             CutStore x = small();
-            Check.refusesEach(x, "text", Check.PLACE, text -> x.copy(text, 0), NO_TEXTS);
-            Check.refusesEach(x, "other", Check.PLACE, other -> x.copy(0, other), NO_TEXTS);
+            Check.refusesBeyond(x, "text", Check.PLACE, text -> x.copy(text, 0), -1, 4);
+            Check.refusesBeyond(x, "other", Check.PLACE, other -> x.copy(0, other), -1, 4);
             Check.refuses(x, "both", Check.PLACE, () -> x.copy(4, 4));
         });
         Sentences.holds(REFUSED, () -> {
@@ -398,8 +376,8 @@ final class TextSentences {
             Check.hasPieces("the only one", x, 1, "h");
         });
         Sentences.holds("Undoable.", () -> {
-            isUndoable(small(), "", x -> x.rotate(0, 1));
-            isUndoable(small(), "", x -> x.rotate(0, 5));
+            Check.undoes(small(), "rotate", "", x -> x.rotate(0, 1));
+            Check.undoes(small(), "rotate", "", x -> x.rotate(0, 5));
         });
         Sentences.holds(PIECES, () -> {
             CutStore x = Examples.evenly(2);
@@ -409,7 +387,7 @@ final class TextSentences {
             Check.same("cut anew", x.rotate(0, 5), 5);
             Check.put(x, 1, "a");
             Check.same("one", x.rotate(1, 1), 1);
-            Check.put(x, 1, FORTY);
+            Check.put(x, 1, Examples.FORTY);
             Check.same("forty", x.rotate(1, 1), 40);
         });
         Sentences.holds(REFUSED, () -> {
@@ -446,12 +424,11 @@ final class TextSentences {
         });
         Sentences.holds(NO_TEXT, () -> {
             CutStore x = small();
-            Check.refusesEach(x, "text", Check.PLACE, text -> x.rotate(text, 1), NO_TEXTS);
+            Check.refusesBeyond(x, "text", Check.PLACE, text -> x.rotate(text, 1), -1, 4);
         });
         Sentences.holds(MANY_IS_WRONG, () -> {
             CutStore x = small();
-            Check.refusesEach(x, "many of five", Check.ARGUMENT, many -> x.rotate(0, many), -1, 0, 6, 40, 41, LEAST_INT,
-                    GREATEST_INT);
+            Check.refusesBeyond(x, "many of five", Check.ARGUMENT, many -> x.rotate(0, many), -1, 0, 6, 40, 41);
             Check.refusesEach(x, "many of none", Check.ARGUMENT, many -> x.rotate(3, many), -1, 0, 1);
         });
     }
@@ -474,8 +451,8 @@ final class TextSentences {
             Check.same("nothing comes or is swept", x.count(7) + x.count(8), 3);
         });
         Sentences.holds("Undoable.", () -> {
-            isUndoable(small(), "", x -> x.drop(0));
-            isUndoable(small(), "", x -> x.drop(3));
+            Check.undoes(small(), "drop", "", x -> x.drop(0));
+            Check.undoes(small(), "drop", "", x -> x.drop(3));
             CutStore x = small();
             x.drop(1);
             x.undo();
@@ -492,12 +469,12 @@ final class TextSentences {
             Check.same("none", x.drop(3), 0);
             Check.same("five", x.drop(0), 5);
             Check.same("none any more", x.drop(0), 0);
-            Check.put(x, 0, FORTY);
+            Check.put(x, 0, Examples.FORTY);
             Check.same("forty", x.drop(0), 40);
         });
         Sentences.holds(NO_TEXT, () -> {
             CutStore x = small();
-            Check.refusesEach(x, "text", Check.PLACE, text -> x.drop(text), NO_TEXTS);
+            Check.refusesBeyond(x, "text", Check.PLACE, text -> x.drop(text), -1, 4);
         });
     }
 
@@ -522,8 +499,8 @@ final class TextSentences {
             Check.same("left", full.count(2), 20);
         });
         Sentences.holds("Undoable.", () -> {
-            isUndoable(small(), "", x -> x.sweep());
-            isUndoable(new CutStore(), "", x -> x.sweep());
+            Check.undoes(small(), "sweep", "", x -> x.sweep());
+            Check.undoes(new CutStore(), "sweep", "", x -> x.sweep());
         });
         Sentences.holds("Returns how many pieces are swept.", () -> {
             CutStore x = Examples.withoutSlots();
@@ -551,8 +528,8 @@ final class TextSentences {
             }
         });
         Sentences.holds("Undoable.", () -> {
-            isUndoable(small(), "", x -> x.set(4, 6));
-            isUndoable(small(), "", x -> x.set(0, 3));
+            Check.undoes(small(), "set", "", x -> x.set(4, 6));
+            Check.undoes(small(), "set", "", x -> x.set(0, 3));
         });
         Sentences.holds("`setting`: 0 to 4", () -> {
             CutStore x = new CutStore();
@@ -581,7 +558,7 @@ final class TextSentences {
         });
         Sentences.holds("Throws `IndexOutOfBoundsException` if there is no such setting", () -> {
             CutStore x = new CutStore();
-            Check.refusesEach(x, "setting", Check.PLACE, setting -> x.set(setting, 6), -1, 5, LEAST_INT, GREATEST_INT);
+            Check.refusesBeyond(x, "setting", Check.PLACE, setting -> x.set(setting, 6), -1, 5);
         });
         Sentences.holds("Throws `IllegalArgumentException` if value is out of range", () -> {
             CutStore x = new CutStore();
@@ -591,8 +568,8 @@ final class TextSentences {
                 int setting = each;
                 x.set(setting, lowest[setting]);
                 x.set(setting, highest[setting]);
-                Check.refusesEach(x, setting + " as", Check.ARGUMENT, value -> x.set(setting, value),
-                        lowest[setting] - 1, highest[setting] + 1, LEAST_INT, GREATEST_INT);
+                Check.refusesBeyond(x, setting + " as", Check.ARGUMENT, value -> x.set(setting, value),
+                        lowest[setting] - 1, highest[setting] + 1);
             }
         });
     }

@@ -2,12 +2,6 @@ import java.util.function.Supplier;
 
 /** The sentences of promises 21 to 25: what would be. */
 final class WouldBeSentences {
-    private static final int LEAST_INT = Integer.MIN_VALUE;
-    private static final int GREATEST_INT = Integer.MAX_VALUE;
-    private static final int[] NO_TEXTS = {-1, 4, LEAST_INT, GREATEST_INT};
-    private static final int[] LOWEST = {1, 1, 0, 1, 6};
-    private static final int[] HIGHEST = {6, 9, 8, 6, 20};
-    private static final String FORTY = "a9a9a9a9a4";
     private static final String NO_TEXT = "Throws `IndexOutOfBoundsException` if there is no such text";
 
     private WouldBeSentences() {
@@ -49,7 +43,7 @@ final class WouldBeSentences {
             }
         });
         Sentences.holds("Returns the number; NONE if the buffer is not a complete text as a text.", () -> {
-            for (String characters : new String[] {"", "2", "a1", "a22", "i", FORTY + "a", FORTY + "2", "a9a9a9a9a5"}) {
+            for (String characters : new String[] {"", "2", "a1", "a22", "i", Examples.FORTY + "a", Examples.FORTY + "2", "a9a9a9a9a5"}) {
                 CutStore x = new CutStore();
                 Check.type(x, characters);
                 for (int what = 0; what <= 3; what++) {
@@ -57,20 +51,20 @@ final class WouldBeSentences {
                 }
             }
             CutStore x = new CutStore();
-            Check.type(x, FORTY);
+            Check.type(x, Examples.FORTY);
             Check.same("forty signs", x.ifPut(0, 0), 4);
         });
         Sentences.holds(NO_TEXT, () -> {
             CutStore x = Examples.sharing();
-            Check.refusesEach(x, "text without a text in the buffer", Check.PLACE, text -> x.ifPut(text, 0), NO_TEXTS);
+            Check.refusesBeyond(x, "text without a text in the buffer", Check.PLACE, text -> x.ifPut(text, 0), -1, 4);
             Check.type(x, "ab");
-            Check.refusesEach(x, "text", Check.PLACE, text -> x.ifPut(text, 0), NO_TEXTS);
+            Check.refusesBeyond(x, "text", Check.PLACE, text -> x.ifPut(text, 0), -1, 4);
         });
         Sentences.holds("Throws `IllegalArgumentException` if what is not 0 to 3", () -> {
             CutStore x = Examples.sharing();
             Check.refusesEach(x, "what without a text in the buffer", Check.ARGUMENT, what -> x.ifPut(0, what), -1, 4);
             Check.type(x, "ab");
-            Check.refusesEach(x, "what", Check.ARGUMENT, what -> x.ifPut(0, what), -1, 4, LEAST_INT, GREATEST_INT);
+            Check.refusesBeyond(x, "what", Check.ARGUMENT, what -> x.ifPut(0, what), -1, 4);
         });
     }
 
@@ -141,15 +135,15 @@ final class WouldBeSentences {
             Check.same("not as it was cut", x.text(0, 1), 3);
             Check.same("of an empty text", x.ifSet(1, 3, 1), 0);
             Check.same("the setting stays", x.setting(3), 1);
-            Check.put(x, 2, FORTY);
+            Check.put(x, 2, Examples.FORTY);
             Check.same("forty", x.ifSet(2, 3, 1), 40);
             CutStore full = Examples.withoutSlots();
             Check.same("also if the store could not keep them", full.ifSet(0, 3, 3), 14);
         });
         Sentences.holds("Throws `IndexOutOfBoundsException` if there is no such text or setting", () -> {
             CutStore x = Examples.sharing();
-            Check.refusesEach(x, "text", Check.PLACE, text -> x.ifSet(text, 1, 2), NO_TEXTS);
-            Check.refusesEach(x, "setting", Check.PLACE, setting -> x.ifSet(0, setting, 6), -1, 5, LEAST_INT, GREATEST_INT);
+            Check.refusesBeyond(x, "text", Check.PLACE, text -> x.ifSet(text, 1, 2), -1, 4);
+            Check.refusesBeyond(x, "setting", Check.PLACE, setting -> x.ifSet(0, setting, 6), -1, 5);
         });
     }
 
@@ -157,7 +151,7 @@ final class WouldBeSentences {
         Sentences.holds("`value`: a value that it can have", () -> {
             CutStore x = Examples.sharing();
             for (int setting = 0; setting <= 4; setting++) {
-                for (int value = LOWEST[setting]; value <= HIGHEST[setting]; value++) {
+                for (int value = Examples.LOWEST[setting]; value <= Examples.HIGHEST[setting]; value++) {
                     CutStore twin = Examples.sharing();
                     twin.set(setting, value);
                     Check.same("setting " + setting + " as " + value, x.ifSet(3, setting, value), twin.copy(3, 3));
@@ -168,10 +162,10 @@ final class WouldBeSentences {
             CutStore x = Examples.sharing();
             for (int each = 0; each <= 4; each++) {
                 int setting = each;
-                Check.refusesEach(x, setting + " as", Check.ARGUMENT, value -> x.ifSet(0, setting, value),
-                        LOWEST[setting] - 1, HIGHEST[setting] + 1, LEAST_INT, GREATEST_INT);
+                Check.refusesBeyond(x, setting + " as", Check.ARGUMENT, value -> x.ifSet(0, setting, value),
+                        Examples.LOWEST[setting] - 1, Examples.HIGHEST[setting] + 1);
                 Check.refusesEach(x, setting + " of an empty text as", Check.ARGUMENT,
-                        value -> new CutStore().ifSet(0, setting, value), LOWEST[setting] - 1, HIGHEST[setting] + 1);
+                        value -> new CutStore().ifSet(0, setting, value), Examples.LOWEST[setting] - 1, Examples.HIGHEST[setting] + 1);
             }
         });
     }
@@ -188,6 +182,8 @@ final class WouldBeSentences {
                     // 1: "ba"; 2: "bab", "ab", "ab", "a"; 3 to 9: all eight.
                     bestIs(new int[] {1, 4, 0, 2, 10}, 1, "babababa");
                     bestIs(new int[] {1, 4, 0, 2, 10}, 2, "abababab");
+                    // 3: "bac", twice; 1: "ba", "cb", "ac"; the others: all six.
+                    bestIs(new int[] {1, 4, 0, 2, 10}, 3, "bacbac");
                     // By the rest 8 only 9 ends pieces, and only behind "h".
                     bestIs(new int[] {1, 4, 8, 1, 20}, 9, "hahahaha");
                     // By the rest 0 the divisors 1, 2, 4 and 8 end pieces behind each "h".
@@ -246,7 +242,7 @@ final class WouldBeSentences {
                     x.drop(3);
                     Check.same("without signs any more", x.savedShare(), 0.0);
                     CutStore alike = Examples.evenly(1);
-                    Check.put(alike, 0, FORTY);
+                    Check.put(alike, 0, Examples.FORTY);
                     Check.same("a text with itself", alike.savedShare(), 1.0 - 1.0 / 40.0);
                     alike.copy(1, 0);
                     alike.copy(2, 0);
@@ -288,6 +284,7 @@ final class WouldBeSentences {
                     isByFace(Examples::withoutRoom, "h9h9h2g9g9g2");
                     isByFace(WouldBeSentences::withFreeSlots, "!".repeat(60));
                     isByFace(WouldBeSentences::allAlike, "a");
+                    isByFace(WouldBeSentences::half, "");
                 });
     }
 
@@ -299,9 +296,16 @@ final class WouldBeSentences {
         return x;
     }
 
+    /** The share is 0.5, whose bits are those of a power of two. */
+    private static CutStore half() {
+        CutStore x = Examples.evenly(2);
+        Check.put(x, 1, "ababcdcd");
+        return x;
+    }
+
     private static CutStore allAlike() {
         CutStore x = Examples.evenly(6);
-        Check.put(x, 0, FORTY);
+        Check.put(x, 0, Examples.FORTY);
         x.copy(1, 0);
         x.copy(2, 0);
         return x;
